@@ -572,12 +572,12 @@ public final class SoldSeat {
             draw = other.draw;
         }
 
+        /** Nobody is left; the draw stays. */
         void clear() {
             people = 0;
             here = 0;
             minute = 0;
             standUp();
-            forgetSights();
         }
 
         void forgetSights() {
@@ -844,10 +844,10 @@ public final class SoldSeat {
         int readInto(House house) {
             at = 0;
             for (int b = 0; b < MOST_BUYERS; b++) {
-                if (!readBuyer(house)) return FIRST_FAULT - at;
+                if (!readBuyer(house)) break;
                 skipBlanks();
                 if (at >= size) return house.people;
-                if (letterHere() != ',' || house.people >= MOST_BUYERS) return FIRST_FAULT - at;
+                if (letterHere() != ',' || house.people >= MOST_BUYERS) break;
                 at++;
             }
             return FIRST_FAULT - at;
