@@ -99,13 +99,7 @@ public final class SoldSeat {
     // ---- what is done
 
     public int minutes(int n) {
-        if (outside(n, 1, MOST_MINUTES)) return BAD;
-        if (now.minute + n > LAST_MINUTE) return FULL;
-        for (int i = 0; i < n; i++) {
-            history.remember(now);
-            now.pass(false);
-        }
-        return now.sitter;
+        return goOn(n, false);
     }
 
     public int learnt(int buyer, int trick) {
@@ -142,14 +136,7 @@ public final class SoldSeat {
     }
 
     public int drift(int n) {
-        if (outside(n, 1, MOST_MINUTES)) return BAD;
-        if (now.minute + n > LAST_MINUTE) return FULL;
-        for (int i = 0; i < n; i++) {
-            history.remember(now);
-            now.hearRumour();
-            now.pass(false);
-        }
-        return now.sitter;
+        return goOn(n, true);
     }
 
     public int undo() {
@@ -398,6 +385,17 @@ public final class SoldSeat {
 
     private static boolean noRow(int sheet, int lane) {
         return noSheet(sheet) || outside(lane, 0, LANES - 1);
+    }
+
+    private int goOn(int n, boolean byRumours) {
+        if (outside(n, 1, MOST_MINUTES)) return BAD;
+        if (now.minute + n > LAST_MINUTE) return FULL;
+        for (int i = 0; i < n; i++) {
+            history.remember(now);
+            if (byRumours) now.hearRumour();
+            now.pass(false);
+        }
+        return now.sitter;
     }
 
     private void startTrial() {
