@@ -1,4 +1,7 @@
-/** Each promise of the document by itself: ordinary inputs, edges, wrong inputs; what is due was worked out by hand. */
+/**
+ * Each promise of the document by itself: ordinary inputs, edges, wrong inputs; what is due was worked out by
+ * hand, but for edges that only a search finds (they say so), whose answers the plain model gave.
+ */
 public final class PromisesTest {
     private static final int BAD = -1, NOT = -2, FULL = -3, NONE = -4, NULL = -11, CAST = -12, INDEX = -13, SIZE = -14;
     private static final Checks CHECKS = new Checks("PromisesTest");
