@@ -171,8 +171,24 @@ final class ForetoldBounds extends Bounds {
         round("places of five", five, 9, 5);
         // The friend ousts in minute 5, the plain one never: who sat 4 behind 4 is not who sat 4 behind 9.
         round("who sits", with("p1,f1"), 19, 10);
-        // The friend ousts in minutes 5, 15, 25; the plain one comes back by a trick each time, till both are spent.
-        round("what all know", with("p1:01,f1"), 39, 10);
+    }
+
+    @Says(promise = 19, sentence = "who sits, how long it SAT (4 and more are alike), what all know")
+    static void whatIsNotTakenForAnother() {
+        // The friend ousts in minutes 5, 15, 25; the plain one comes back by a trick each time, till all are spent.
+        round("two tricks less", with("p1:01,f1"), 39, 10);
+        round("four tricks less", with("p1:1234,f1"), 59, 10);
+        round("all tricks less", with("p1:01234,f1"), 69, 10);
+        // Likewise, but once, and the friend is the last of three: it ousts in minutes 5 and 20.
+        SoldSeat others = with("p1,p1:0,f1");
+        others.sent(0);
+        round("another than the first sits", others, 39, 15);
+        // Nobody sits now; ten minutes later, of all else alike, one of the two friends has sat for one.
+        for (int minute = 1; minute <= 6; minute += 5) {
+            SoldSeat friends = behind(minute, "f1,f1");
+            friends.called();
+            round("nobody is not one who has just sat down", friends, 18, 10);
+        }
     }
 
     @Says(promise = 19, sentence = "which; by how many it is later than that one; none (also without BUYERS)")
