@@ -290,7 +290,7 @@ public final class SoldSeat {
         return 1;
     }
 
-    // ---- 3 sheets
+    // ---- 3 sheets 0 .. 3: nothing (at first), or a row of a LANE: 0 bytes, 1 shorts, 2 ints, 3 longs, of 0 to 24 items
 
     public int stubs(int buyer, int sheet, int lane, int i, int n, int what) {
         if (noBuyer(buyer) || noRow(sheet, lane) || outside(n, 1, MOST_CHANCES) || outside(what, 0, 2)) return BAD;

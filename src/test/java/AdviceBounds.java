@@ -165,8 +165,8 @@ final class AdviceBounds extends Bounds {
         due("here again", seat.ousts(0), 2);
     }
 
-    @Says(promise = 25, sentence = "those HERE (a set, not itself) whom it would oust now, were they THE SITTER "
-        + "(SAT as THE SITTER has now, 0, if THE SEAT is empty; the MINUTE as it is), whosever TURN it is")
+    @Says(promise = 25, sentence = "OUSTS of one: those HERE (a set, not itself) whom it would oust now, were they "
+        + "THE SITTER (SAT as THE SITTER has now, 0, if THE SEAT is empty; the MINUTE as it is), whosever TURN it is")
     static void whomItWouldOust() {
         SoldSeat friends = with("f1,f1,f1,f1,f1,f1");
         for (int b = 0; b < 6; b++) {

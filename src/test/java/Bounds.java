@@ -4,11 +4,11 @@ import java.util.function.IntToLongFunction;
 import java.util.function.Supplier;
 import java.util.function.ToLongFunction;
 
-/** What the tests of boundaries share. */
+/** What the tests of the document's sentences share. */
 abstract class Bounds {
     static final int BAD = -1, NOT = -2, FULL = -3, NONE = -4, NULL = -11, CAST = -12, INDEX = -13, SIZE = -14;
     static final int MIN = Integer.MIN_VALUE, MAX = Integer.MAX_VALUE;
-    static final Checks CHECKS = new Checks("BoundariesTest");
+    static final Checks CHECKS = new Checks("SentencesTest");
 
     private static String looking = "";
 

@@ -100,13 +100,14 @@ final class BuyerBounds extends Bounds {
         due("the last went home", seat.sent(4), 14);
     }
 
-    @Says(promise = 2, sentence = "BUYERS 0 .. 5, as they come")
+    @Says(promise = 2, sentence = "BUYERS 0 .. 5, as they come, are of a KIND")
     static void numbersOfBuyers() {
         SoldSeat seat = new SoldSeat();
         for (int b = 0; b < 6; b++) {
             due("ahead of it", seat.of(b, 0), BAD);
             due("number", seat.buyer(b % 5, b, b), b);
             due("how many", seat.count(0), b + 1);
+            due("its kind", seat.of(b, 0), b % 5);
             due("its own", seat.of(b, 1), b);
         }
         due("no buyer 6", seat.of(6, 0), BAD);
@@ -124,7 +125,7 @@ final class BuyerBounds extends Bounds {
         due("who was sent is still one of six", home.buyer(0, 0, 0), FULL);
     }
 
-    @Says(promise = 2, sentence = "of several the first that a call names")
+    @Says(promise = 2, sentence = "Answers below 0, of several the first that a call names")
     static void badAheadOfFull() {
         SoldSeat seat = with("p1,p2,p3,p4,p5,p6");
         due("kind", seat.buyer(5, 0, 0), BAD);
@@ -387,8 +388,8 @@ final class BuyerBounds extends Bounds {
         due("the only one's", seat.count(4), 0);
     }
 
-    @Says(promise = 7, sentence = "in MINUTE t (0 at first) it is the TURN of the BUYER who is in the place that is t "
-        + "left over by how many there are")
+    @Says(promise = 7, sentence = "TURNS: in MINUTE t (0 at first) it is the TURN of the BUYER who is in the place "
+        + "that is t left over by how many there are")
     static void turnsComeRound() {
         for (int people = 1; people <= 6; people++) {
             SoldSeat seat = with("p1,p1,p1,p1,p1,p1".substring(0, 3 * people - 1));

@@ -2,6 +2,7 @@ import java.io.IOException;
 import java.nio.file.Files;
 import java.nio.file.Path;
 import java.util.ArrayList;
+import java.util.Arrays;
 import java.util.List;
 import java.util.regex.Matcher;
 import java.util.regex.Pattern;
@@ -14,10 +15,9 @@ final class Document {
     private final String[] sections = new String[PROMISES + 1];
     private final boolean[][] quoted = new boolean[PROMISES + 1][];
 
-    /** Words by which a sentence names a boundary: ranges, what is empty or full, what comes round, answers below 0. */
-    private static final Pattern EDGE = Pattern.compile("-?\\d+ \\.\\. \\d+|\\d+ to \\d+|\\b("
-        + "BAD|NOT|FULL|NONE|NULL|CAST|INDEX|SIZE|FAULTS?|none|nobody|nothing|empty|lost|alike|too|at first|left over|"
-        + "or more|and more|at most|once|twice|like ones|refused|the end|can't|least|lowest|first of|less)\\b");
+    /** What says nothing by itself: headings, a call's own line, marks of blocks and parts. */
+    private static final Pattern FRAME = Pattern.compile("## Terms|## Promise \\d+: .*?`[^`]*`:|```(text)?|==== \\d");
+    private static final Pattern WORD = Pattern.compile("[A-Za-z0-9]+");
 
     Document(Path path) throws IOException {
         String text = Files.readString(path).replaceAll("\\s+", " ");
@@ -36,26 +36,32 @@ final class Document {
         int section = sections[promise].contains(sentence) ? promise : 0;
         int at = sections[section].indexOf(sentence);
         if (at < 0 || sections[section].indexOf(sentence, at + 1) >= 0) return false;
-        for (int i = at; i < at + sentence.length(); i++) {
-            quoted[section][i] = true;
-        }
+        Arrays.fill(quoted[section], at, at + sentence.length(), true);
         return true;
     }
 
-    /** Where the document names a boundary in words that no test has quoted. */
+    /** The words that no test has quoted. */
     List<String> unquoted() {
         List<String> found = new ArrayList<>();
         for (int section = 0; section <= PROMISES; section++) {
             String text = sections[section];
-            Matcher edge = EDGE.matcher(text);
+            markFrame(section);
             // What stands ahead of the terms is what the document is about, and the face, which FaceTest looks at.
             int from = section == 0 ? text.indexOf("## Terms") : 0;
-            for (int at = from; edge.find(at); at = edge.end()) {
-                if (quoted[section][edge.start()]) continue;
-                int end = Math.min(text.length(), edge.end() + 30);
-                found.add("section " + section + ": " + text.substring(Math.max(0, edge.start() - 30), end));
+            Matcher word = WORD.matcher(text);
+            for (int at = from; word.find(at); at = word.end()) {
+                if (quoted[section][word.start()]) continue;
+                int end = Math.min(text.length(), word.end() + 30);
+                found.add("section " + section + ": " + text.substring(Math.max(0, word.start() - 30), end));
             }
         }
         return found;
+    }
+
+    private void markFrame(int section) {
+        Matcher frame = FRAME.matcher(sections[section]);
+        while (frame.find()) {
+            Arrays.fill(quoted[section], frame.start(), frame.end(), true);
+        }
     }
 }

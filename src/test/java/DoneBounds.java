@@ -293,7 +293,7 @@ final class DoneBounds extends Bounds {
         due("one more", seat.drift(1), FULL);
     }
 
-    @Says(promise = 13, sentence = "THE DRAW is a number of 31 bits (1 at first)")
+    @Says(promise = 13, sentence = "DRIFT by a seed: THE DRAW is a number of 31 bits (1 at first)")
     static void theDrawAtFirst() {
         SoldSeat seat = new SoldSeat();
         due("at first", seat.seed(0), 1);

@@ -27,6 +27,7 @@ public final class FaceTest {
         lookAtConstants();
         lookAtClassesInside();
         lookAtTheSource();
+        lookAtTheDocumentsFace();
         CHECKS.end();
     }
 
@@ -105,5 +106,23 @@ public final class FaceTest {
         while (imports.find()) {
             CHECKS.due("import of " + imports.group(1), imports.group(1).equals("java.util.Arrays"));
         }
+    }
+
+    /** Each line of the face stands in the source, in its order, with the names that the document gives. */
+    private static void lookAtTheDocumentsFace() throws IOException {
+        String source = Files.readString(Path.of("src/main/java/SoldSeat.java"));
+        String document = Files.readString(Path.of("../shared/DOC.md"));
+        int start = document.indexOf("```java") + "```java".length();
+        int at = 0;
+        int lines = 0;
+        for (String line : document.substring(start, document.indexOf("```", start)).split("\n")) {
+            if (!line.contains("public")) continue;
+            String due = line.endsWith(");") ? line.substring(0, line.length() - 1) + " {" : line;
+            int found = source.indexOf(due + "\n", at);
+            CHECKS.due("the source has " + due.trim(), found >= 0);
+            at = Math.max(at, found);
+            lines++;
+        }
+        CHECKS.due("class, constants, constructor and methods", lines, 1 + 1 + 1 + 35);
     }
 }

@@ -141,7 +141,7 @@ final class ForetoldBounds extends Bounds {
         due("bad ahead of none", new SoldSeat().round(-1), BAD);
     }
 
-    @Says(promise = 19, sentence = "ROUND: the first of 1 to 300 MINUTES")
+    @Says(promise = 19, sentence = "ROUND: the first of 1 to 300 MINUTES behind which")
     static void oneToThreeHundred() {
         // Behind 301, and then behind 300 (found by a search).
         SoldSeat seat = behind(10, "m8:0124,d0:02,f4:01,d8:012,d2:12,m2:01234");

@@ -72,8 +72,8 @@ final class SheetBounds extends Bounds {
         still("beyond", busy -> busy.stubs(0, 0, 0, 1, 3, 1), INDEX);
     }
 
-    @Says(promise = 30, sentence = "a row tells who is THE SITTER behind each of the next n MINUTES (1 .. 8; -4: "
-        + "nobody)")
+    @Says(promise = 30, sentence = "STUBS: a row tells who is THE SITTER behind each of the next n MINUTES (1 .. 8; "
+        + "-4: nobody)")
     static void oneToEightMinutes() {
         SoldSeat seat = withRow("p1", 0, 0, 0, 0, 0, 0, 0, -4);
         due("seven are so", seat.stubs(0, 0, 2, 0, 7, 0), 31);
@@ -141,8 +141,8 @@ final class SheetBounds extends Bounds {
         due("eight", seat.gaps(0, 2, 1, 8, 0, 0), 9);
     }
 
-    @Says(promise = 31, sentence = "by n items of a SHEET (1 .. 8) likewise: the least (m 0, what 0); by m (1 .. "
-        + "99) above")
+    @Says(promise = 31, sentence = "GAPS by n items of a SHEET (1 .. 8) likewise: the least (m 0, what 0); by m "
+        + "(1 .. 99) above (what 0), below (1).")
     static void byMore() {
         SoldSeat seat = new SoldSeat();
         tell(seat, 0, 2, 1, 2, 99);

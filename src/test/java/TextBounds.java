@@ -112,7 +112,7 @@ final class TextBounds extends Bounds {
         due("a refused letter is not typed", seat.theatre(), 1);
     }
 
-    @Says(promise = 6, sentence = "1 to 6 BUYERS with , between")
+    @Says(promise = 6, sentence = "A THEATRE is a TEXT: 1 to 6 BUYERS with , between")
     static void oneToSixBuyers() {
         fault("", 0);
         fine("p1", 1);

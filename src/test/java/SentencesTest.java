@@ -7,10 +7,10 @@ import java.util.List;
 import java.util.Set;
 import java.util.TreeSet;
 
-/** Every sentence of the document that names a boundary, each by a test of its own that quotes it. */
-public final class BoundariesTest {
+/** Every sentence of the document, each by a test that quotes it; each that names a boundary by one of its own. */
+public final class SentencesTest {
     private static final Class<?>[] GROUPS = {BuyerBounds.class, TextBounds.class, DoneBounds.class,
-        ForetoldBounds.class, AdviceBounds.class, SheetBounds.class};
+        ForetoldBounds.class, AdviceBounds.class, SheetBounds.class, KindRules.class, Rules.class};
 
     public static void main(String[] args) throws IOException, ReflectiveOperationException {
         for (Method test : tests()) {
@@ -21,7 +21,7 @@ public final class BoundariesTest {
         if (Files.isReadable(path)) {
             lookAtQuotes(new Document(path));
         } else {
-            System.out.println("BoundariesTest: no " + path + ", so quotes are not looked at");
+            System.out.println("SentencesTest: no " + path + ", so quotes are not looked at");
         }
         Bounds.CHECKS.end();
     }
@@ -36,7 +36,7 @@ public final class BoundariesTest {
         return tests;
     }
 
-    /** That each quote is true, and that the tests quote every boundary and every promise. */
+    /** That each quote is true, and that no words of the document are left that no test quotes. */
     private static void lookAtQuotes(Document document) {
         Set<Integer> promises = new TreeSet<>();
         for (Method test : tests()) {
